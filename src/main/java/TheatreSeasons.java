@@ -762,14 +762,13 @@ public final class TheatreSeasons {
         int add(int performance, int number, int priority) {
             int place = 0;
             int request = 0;
-            while (request < count) {
+            for (; request < count; request++) {
                 if (performances.get(request) == performance) {
                     if (priorities.get(request) < priority) {
                         break;
                     }
                     place++;
                 }
-                request++;
             }
             performances.insertAt(request, performance);
             seats.insertAt(request, number);
@@ -1220,11 +1219,11 @@ public final class TheatreSeasons {
         }
 
         private void forgetOldest() {
-            Season oldest = rows[0];
             for (int row = 0; row + 1 < rows.length; row++) {
+                Season oldest = rows[row];
                 rows[row] = rows[row + 1];
+                rows[row + 1] = oldest;
             }
-            rows[rows.length - 1] = oldest;
         }
 
         private Season rowAt(int index) {

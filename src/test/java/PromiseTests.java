@@ -295,6 +295,10 @@ public final class PromiseTests {
         Checks.is(4, x.waiting(1, 0, false));
         Checks.is(11, x.performance(0, 3));
         Checks.is(2, x.subscription(0, 3));
+        Checks.is(0, x.performance(0, 4));
+        Checks.is(2, x.performance(1, 4));
+        Checks.is(5, x.waiting(0, 0, true));
+        Checks.is(4, x.waiting(1, 0, true));
         Checks.is(1, x.performance(1, 7));
         Checks.is(0, x.performance(0, 7));
         Checks.is(6, x.production(0, 5));
@@ -456,6 +460,13 @@ public final class PromiseTests {
         Checks.is(1, x.bestMove(0));
         Checks.is(0, x.move(0, 10));
         Checks.is(10, x.performance(0, 2));
+        TheatreSeasons first = new TheatreSeasons();
+        first.addProduction(5, 1, 1, 1);
+        first.perform(0, 0, 12);
+        Checks.is(0, first.bestMove(0));
+        first.move(0, 0);
+        Checks.is(1, first.bestMove(0));
+        Checks.is(0, first.production(0, 6));
         Checks.noIndex(() -> x.bestMove(3));
         Checks.noIndex(() -> x.bestMove(-1));
         Checks.noElement(() -> x.reason(false));
@@ -467,6 +478,14 @@ public final class PromiseTests {
         y.setRoom(0);
         Checks.is(24, y.bestMove(0));
         Checks.noElement(() -> y.bestMove(5));
+        TheatreSeasons z = new TheatreSeasons();
+        z.addProduction(5, 6, 1, 1);
+        z.setRoom(0);
+        for (int date = 6; date < 30; date++) {
+            z.perform(0, 0, date);
+        }
+        Checks.noElement(() -> z.bestMove(0));
+        Checks.is(5, z.bestMove(23));
     }
 
     private static void load() {
@@ -537,10 +556,32 @@ public final class PromiseTests {
         Checks.is(37 + 3, x.refund(0, 2));
         Checks.is(0, x.performance(0, 6));
         Checks.is(1, x.performance(1, 6));
+        x.sell(2, 9);
+        Checks.is(0, x.refund(2, 9));
+        allServed();
         Checks.noIndex(() -> x.refund(3, 0));
         Checks.noIndex(() -> x.refund(-1, 1));
         Checks.noArgument(() -> x.refund(0, 0));
         Checks.noArgument(() -> x.refund(0, 100));
+    }
+
+    private static void allServed() {
+        TheatreSeasons x = withPerformances();
+        x.sell(0, 40);
+        for (int k = 0; k < 20; k++) {
+            x.request(0, 1, k / 2);
+        }
+        Checks.is(40, x.refund(0, 2));
+        Checks.is(18, x.account(3));
+        Checks.is(8, x.waiting(0, 0, true));
+        Checks.is(40, x.refund(0, 18));
+        Checks.is(0, x.account(3));
+        for (int k = 0; k < 20; k++) {
+            x.request(0, 1, k / 2);
+        }
+        x.setSeats(0, 60);
+        Checks.is(0, x.account(3));
+        Checks.is(60, x.performance(0, 3));
     }
 
     private static void request() {
@@ -933,7 +974,9 @@ public final class PromiseTests {
     private static void changes() {
         TheatreSeasons x = new TheatreSeasons();
         Runnable[] calls = {
-            () -> x.setSeats(0, 40), () -> x.setStaff(6), () -> x.setRoom(20), () -> x.addProduction(1, 1, 1, 1),
+            () -> x.setSeats(0, 40), () -> x.setStaff(6), () -> x.setRoom(20), () -> x.setSeats(1, 61),
+            () -> x.setStaff(7), () -> x.setRoom(21), () -> x.addProduction(1, 1, 1, 1), () -> x.setSeats(2, 81),
+            () -> x.addProduction(2, 2, 2, 2), () -> x.setRoom(22), () -> x.setStaff(8),
             () -> x.perform(0, 0, 0), () -> x.perform(0, 0, 2), () -> x.move(0, 0), () -> x.sell(0, 5),
             () -> x.refund(0, 2), () -> x.request(0, 1, 1), () -> x.subscribe(2), () -> x.hold(0, 0),
             () -> x.exchange(0, 0, 1), () -> x.release(0, 1), () -> x.cancel(0), () -> read(x, "s0x1"),
@@ -964,6 +1007,14 @@ public final class PromiseTests {
         for (int k = 0; k < x.account(1); k++) {
             for (int what = 0; what < 8; what++) {
                 text.append(x.performance(k, what)).append(' ');
+            }
+            for (int place = 0; place < x.performance(k, 6); place++) {
+                text.append(x.waiting(k, place, false)).append('!').append(x.waiting(k, place, true)).append(' ');
+            }
+        }
+        for (int k = 0; k < x.account(0); k++) {
+            for (int what = 0; what < 8; what++) {
+                text.append(x.production(k, what)).append(' ');
             }
         }
         for (int k = 0; k < x.account(2); k++) {
@@ -1014,5 +1065,27 @@ public final class PromiseTests {
         x.cancel(0);
         Checks.is(4, x.restore());
         Checks.tell(before.equals(told(x)), "restored again is " + told(x) + ", due is " + before);
+        restoreOverOtherRows();
+    }
+
+    /** What was saved comes back also where the season has other productions and the like instead. */
+    private static void restoreOverOtherRows() {
+        TheatreSeasons x = new TheatreSeasons();
+        x.setRoom(30);
+        x.addProduction(1, 2, 3, 4);
+        x.perform(0, 1, 7);
+        x.subscribe(2);
+        x.request(0, 50, 5);
+        x.save();
+        String before = told(x);
+        for (int k = 0; k < 4; k++) {
+            x.undo();
+        }
+        x.addProduction(5, 6, 7, 8);
+        x.perform(0, 2, 8);
+        x.subscribe(3);
+        x.request(0, 51, 6);
+        x.restore();
+        Checks.tell(before.equals(told(x)), "restored is " + told(x) + ", due is " + before);
     }
 }
