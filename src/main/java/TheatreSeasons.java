@@ -541,20 +541,18 @@ public final class TheatreSeasons {
         // The questions that end in If are answered as if the dates of the changed production
         // were other ones; with NONE as the changed production, as things are.
 
-        private int datesIf(int production, int changed, int changedDates) {
-            return production == changed ? changedDates : dates.get(production);
-        }
-
         private static boolean isStored(int played, int date) {
             boolean isBegun = (played & ((1 << date) - 1)) != 0;
             boolean isUnended = played >> date != 0;
-            return isBegun && isUnended && !isInSet(played, date);
+            boolean isPlayed = (played >> date & 1) != 0;
+            return isBegun && isUnended && !isPlayed;
         }
 
         int loadIf(int date, int changed, int changedDates) {
             int sum = 0;
             for (int production = 0; production < count; production++) {
-                if (isStored(datesIf(production, changed, changedDates), date)) {
+                int played = production == changed ? changedDates : dates.get(production);
+                if (isStored(played, date)) {
                     sum += sizes.get(production);
                 }
             }
@@ -572,7 +570,8 @@ public final class TheatreSeasons {
         private int crewIf(int date, int changed, int changedDates) {
             int sum = 0;
             for (int production = 0; production < count; production++) {
-                if (isInSet(datesIf(production, changed, changedDates), date)) {
+                int played = production == changed ? changedDates : dates.get(production);
+                if (isInSet(played, date)) {
                     sum += crews.get(production);
                 }
             }

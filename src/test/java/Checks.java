@@ -1,5 +1,9 @@
+import java.util.function.IntConsumer;
+
 /** Counts what holds and what does not, and tells the latter. */
 final class Checks {
+    private static final String NOTHING = "nothing";
+
     private static String label = "";
     private static int passed = 0;
     private static int failed = 0;
@@ -42,13 +46,42 @@ final class Checks {
         tell(Double.compare(due, got) == 0, "answered " + got + ", due is " + due);
     }
 
-    static void fails(Class<? extends RuntimeException> kind, Runnable call) {
-        String got = "nothing";
+    static void same(String due, String got, String what) {
+        tell(due.equals(got), what + ": there is " + got + ", due is " + due);
+    }
+
+    /** The call takes the first and the last number, and throws for all that are tried outside of them. */
+    static void range(int first, int last, Class<? extends RuntimeException> kind, IntConsumer call) {
+        for (int taken : new int[] {first, last}) {
+            String got = thrownBy(() -> call.accept(taken));
+            tell(got.equals(NOTHING), "for " + taken + " threw " + got);
+        }
+        int[] wrong = {first - 1, last + 1, first - 256, last + 256, -last - 2, Integer.MIN_VALUE, Integer.MAX_VALUE};
+        for (int refused : wrong) {
+            String got = thrownBy(() -> call.accept(refused));
+            tell(got.equals(kind.getSimpleName()), "for " + refused + " threw " + got);
+        }
+    }
+
+    static void indexRange(int first, int last, IntConsumer call) {
+        range(first, last, IndexOutOfBoundsException.class, call);
+    }
+
+    static void argumentRange(int first, int last, IntConsumer call) {
+        range(first, last, IllegalArgumentException.class, call);
+    }
+
+    static String thrownBy(Runnable call) {
         try {
             call.run();
+            return NOTHING;
         } catch (RuntimeException e) {
-            got = e.getClass().getSimpleName();
+            return e.getClass().getSimpleName();
         }
+    }
+
+    static void fails(Class<? extends RuntimeException> kind, Runnable call) {
+        String got = thrownBy(call);
         tell(got.equals(kind.getSimpleName()), "threw " + got + ", due is " + kind.getSimpleName());
     }
 
@@ -70,6 +103,10 @@ final class Checks {
 
     static void refused(TheatreSeasons season, int reason, int detail, Runnable call) {
         fails(UnsupportedOperationException.class, call);
+        keeps(season, reason, detail);
+    }
+
+    static void keeps(TheatreSeasons season, int reason, int detail) {
         is(reason, season.reason(false));
         is(detail, season.reason(true));
     }

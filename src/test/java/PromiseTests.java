@@ -47,34 +47,6 @@ public final class PromiseTests {
         Checks.end();
     }
 
-    /** Productions 0 (size 5, crew 2, price 9, share 30) and 1 (size 3, crew 3, price 20, share 100). */
-    private static TheatreSeasons withProductions() {
-        TheatreSeasons x = new TheatreSeasons();
-        x.addProduction(5, 2, 9, 30);
-        x.addProduction(3, 3, 20, 100);
-        return x;
-    }
-
-    /** Performances 0 (stage 0, date 2) and 1 (stage 1, date 6) of production 0, 2 (stage 2, date 4) of 1. */
-    private static TheatreSeasons withPerformances() {
-        TheatreSeasons x = withProductions();
-        x.perform(0, 0, 2);
-        x.perform(0, 1, 6);
-        x.perform(1, 2, 4);
-        return x;
-    }
-
-    private static void type(TheatreSeasons x, String text) {
-        for (int k = 0; k < text.length(); k++) {
-            x.append(text.charAt(k));
-        }
-    }
-
-    private static int read(TheatreSeasons x, String text) {
-        type(x, text);
-        return x.read();
-    }
-
     private static void newObject() {
         TheatreSeasons x = new TheatreSeasons();
         int[] due = {0, 0, 0, 0, 0, 0, 0, 6, 20, 0, 40, 60, 80, 0, 0};
@@ -95,7 +67,7 @@ public final class PromiseTests {
     }
 
     private static void setSeats() {
-        TheatreSeasons x = withPerformances();
+        TheatreSeasons x = Fixtures.withPerformances();
         Checks.is(40, x.setSeats(0, 10));
         Checks.is(10, x.setSeats(0, 99));
         Checks.is(60, x.setSeats(1, 61));
@@ -120,7 +92,7 @@ public final class PromiseTests {
     }
 
     private static void servedBySetSeats() {
-        TheatreSeasons x = withPerformances();
+        TheatreSeasons x = Fixtures.withPerformances();
         x.perform(1, 0, 9);
         x.request(0, 41, 1);
         x.request(0, 9, 0);
@@ -137,7 +109,7 @@ public final class PromiseTests {
     }
 
     private static void setStaff() {
-        TheatreSeasons x = withProductions();
+        TheatreSeasons x = Fixtures.withProductions();
         Checks.is(6, x.setStaff(20));
         Checks.is(20, x.setStaff(1));
         Checks.noArgument(() -> x.setStaff(0));
@@ -155,7 +127,7 @@ public final class PromiseTests {
     }
 
     private static void setRoom() {
-        TheatreSeasons x = withPerformances();
+        TheatreSeasons x = Fixtures.withPerformances();
         Checks.is(20, x.setRoom(99));
         Checks.is(99, x.setRoom(5));
         Checks.refused(x, 3, 3, () -> x.setRoom(4));
@@ -193,7 +165,7 @@ public final class PromiseTests {
     }
 
     private static void production() {
-        TheatreSeasons x = withProductions();
+        TheatreSeasons x = Fixtures.withProductions();
         int[] due = {5, 2, 9, 30, 0, -1, -1, 0};
         for (int k = 0; k < 8; k++) {
             Checks.is(due[k], x.production(0, k));
@@ -223,7 +195,7 @@ public final class PromiseTests {
     }
 
     private static void perform() {
-        TheatreSeasons x = withProductions();
+        TheatreSeasons x = Fixtures.withProductions();
         Checks.is(0, x.perform(0, 2, 29));
         Checks.is(1, x.perform(0, 0, 0));
         Checks.noIndex(() -> x.perform(2, 0, 3));
@@ -243,7 +215,7 @@ public final class PromiseTests {
     }
 
     private static void performRefused() {
-        TheatreSeasons x = withPerformances();
+        TheatreSeasons x = Fixtures.withPerformances();
         Checks.refused(x, 1, 2, () -> x.perform(0, 2, 4));
         Checks.refused(x, 1, 2, () -> x.perform(1, 0, 4));
         x.perform(0, 0, 4);
@@ -264,7 +236,7 @@ public final class PromiseTests {
     }
 
     private static void cancel() {
-        TheatreSeasons x = withPerformances();
+        TheatreSeasons x = Fixtures.withPerformances();
         x.sell(1, 8);
         Checks.is(8, x.cancel(1));
         Checks.is(2, x.account(1));
@@ -278,7 +250,7 @@ public final class PromiseTests {
     }
 
     private static void cancelRenumbers() {
-        TheatreSeasons x = withPerformances();
+        TheatreSeasons x = Fixtures.withPerformances();
         x.subscribe(2);
         x.hold(0, 0);
         x.hold(0, 2);
@@ -331,7 +303,7 @@ public final class PromiseTests {
     }
 
     private static void move() {
-        TheatreSeasons x = withPerformances();
+        TheatreSeasons x = Fixtures.withPerformances();
         x.sell(0, 5);
         x.request(0, 5, 5);
         Checks.is(2, x.move(0, 2));
@@ -351,7 +323,7 @@ public final class PromiseTests {
     }
 
     private static void moveRefused() {
-        TheatreSeasons x = withPerformances();
+        TheatreSeasons x = Fixtures.withPerformances();
         x.addProduction(9, 6, 1, 0);
         x.perform(2, 0, 10);
         Checks.refused(x, 1, 1, () -> x.move(0, 6));
@@ -365,7 +337,7 @@ public final class PromiseTests {
     }
 
     private static void moveWithoutRoom() {
-        TheatreSeasons x = withProductions();
+        TheatreSeasons x = Fixtures.withProductions();
         x.perform(0, 0, 2);
         x.perform(0, 0, 4);
         x.perform(1, 1, 3);
@@ -380,7 +352,7 @@ public final class PromiseTests {
     }
 
     private static void performance() {
-        TheatreSeasons x = withPerformances();
+        TheatreSeasons x = Fixtures.withPerformances();
         x.subscribe(4);
         x.subscribe(5);
         x.subscribe(6);
@@ -402,7 +374,7 @@ public final class PromiseTests {
     }
 
     private static void on() {
-        TheatreSeasons x = withPerformances();
+        TheatreSeasons x = Fixtures.withPerformances();
         Checks.is(0, x.on(0, 2));
         Checks.is(2, x.on(2, 4));
         Checks.noElement(() -> x.on(1, 2));
@@ -414,7 +386,7 @@ public final class PromiseTests {
     }
 
     private static void nextDate() {
-        TheatreSeasons x = withPerformances();
+        TheatreSeasons x = Fixtures.withPerformances();
         Checks.is(0, x.nextDate(0, 0, 0));
         Checks.is(3, x.nextDate(0, 0, 2));
         Checks.is(5, x.nextDate(0, 2, 4));
@@ -437,7 +409,7 @@ public final class PromiseTests {
     }
 
     private static void nextDateAtTheLimit() {
-        TheatreSeasons x = withProductions();
+        TheatreSeasons x = Fixtures.withProductions();
         for (int date = 0; date < 24; date++) {
             x.perform(0, 0, date);
         }
@@ -489,7 +461,7 @@ public final class PromiseTests {
     }
 
     private static void load() {
-        TheatreSeasons x = withPerformances();
+        TheatreSeasons x = Fixtures.withPerformances();
         int[] due = {0, 0, 0, 5, 5, 5, 0, 0};
         for (int date = 0; date < due.length; date++) {
             Checks.is(due[date], x.load(date));
@@ -505,7 +477,7 @@ public final class PromiseTests {
     }
 
     private static void peak() {
-        TheatreSeasons x = withPerformances();
+        TheatreSeasons x = Fixtures.withPerformances();
         Checks.is(5, x.peak());
         x.perform(1, 0, 0);
         Checks.is(8, x.peak());
@@ -518,7 +490,7 @@ public final class PromiseTests {
     }
 
     private static void sell() {
-        TheatreSeasons x = withPerformances();
+        TheatreSeasons x = Fixtures.withPerformances();
         Checks.is(30, x.sell(0, 10));
         Checks.refused(x, 4, 30, () -> x.sell(0, 31));
         Checks.is(10, x.performance(0, 3));
@@ -539,7 +511,7 @@ public final class PromiseTests {
     }
 
     private static void refund() {
-        TheatreSeasons x = withPerformances();
+        TheatreSeasons x = Fixtures.withPerformances();
         x.sell(0, 40);
         Checks.is(30, x.refund(0, 10));
         Checks.refused(x, 7, 30, () -> x.refund(0, 31));
@@ -566,7 +538,7 @@ public final class PromiseTests {
     }
 
     private static void allServed() {
-        TheatreSeasons x = withPerformances();
+        TheatreSeasons x = Fixtures.withPerformances();
         x.sell(0, 40);
         for (int k = 0; k < 20; k++) {
             x.request(0, 1, k / 2);
@@ -585,7 +557,7 @@ public final class PromiseTests {
     }
 
     private static void request() {
-        TheatreSeasons x = withPerformances();
+        TheatreSeasons x = Fixtures.withPerformances();
         Checks.is(0, x.request(0, 1, 4));
         Checks.is(1, x.request(0, 2, 4));
         Checks.is(0, x.request(0, 3, 5));
@@ -612,7 +584,7 @@ public final class PromiseTests {
     }
 
     private static void waiting() {
-        TheatreSeasons x = withPerformances();
+        TheatreSeasons x = Fixtures.withPerformances();
         x.request(0, 31, 4);
         x.request(1, 32, 5);
         x.request(0, 33, 6);
@@ -628,24 +600,8 @@ public final class PromiseTests {
         Checks.noIndex(() -> x.waiting(-1, 0, true));
     }
 
-    /** On the date 4: performances 2 (stage 2) and 3 (stage 0). */
-    private static TheatreSeasons withSeats() {
-        TheatreSeasons x = withPerformances();
-        x.perform(0, 0, 4);
-        x.subscribe(2);
-        x.subscribe(3);
-        x.hold(0, 2);
-        x.hold(1, 2);
-        x.hold(1, 3);
-        x.hold(1, 0);
-        x.sell(2, 20);
-        x.sell(3, 1);
-        x.sell(1, 9);
-        return x;
-    }
-
     private static void seats() {
-        TheatreSeasons x = withSeats();
+        TheatreSeasons x = Fixtures.withSeats();
         Checks.is(21, x.seats(4, 0));
         Checks.is(8, x.seats(4, 1));
         Checks.is(120 - 29, x.seats(4, 2));
@@ -658,7 +614,7 @@ public final class PromiseTests {
     }
 
     private static void seatsAgain() {
-        TheatreSeasons x = withSeats();
+        TheatreSeasons x = Fixtures.withSeats();
         Checks.is(21, x.seatsAgain(4, 0));
         Checks.is(8, x.seatsAgain(4, 1));
         Checks.is(120 - 29, x.seatsAgain(4, 2));
@@ -685,7 +641,7 @@ public final class PromiseTests {
     }
 
     private static void hold() {
-        TheatreSeasons x = withPerformances();
+        TheatreSeasons x = Fixtures.withPerformances();
         x.subscribe(6);
         x.subscribe(1);
         x.sell(0, 34);
@@ -707,7 +663,7 @@ public final class PromiseTests {
     }
 
     private static void release() {
-        TheatreSeasons x = withPerformances();
+        TheatreSeasons x = Fixtures.withPerformances();
         x.subscribe(6);
         x.hold(0, 0);
         x.hold(0, 1);
@@ -730,7 +686,7 @@ public final class PromiseTests {
     }
 
     private static void exchange() {
-        TheatreSeasons x = withPerformances();
+        TheatreSeasons x = Fixtures.withPerformances();
         x.subscribe(6);
         x.sell(0, 34);
         x.hold(0, 0);
@@ -765,7 +721,7 @@ public final class PromiseTests {
     }
 
     private static void subscription() {
-        TheatreSeasons x = withPerformances();
+        TheatreSeasons x = Fixtures.withPerformances();
         x.subscribe(2);
         x.subscribe(5);
         x.hold(1, 0);
@@ -783,7 +739,7 @@ public final class PromiseTests {
     }
 
     private static void partner() {
-        TheatreSeasons x = withPerformances();
+        TheatreSeasons x = Fixtures.withPerformances();
         Checks.isReal(0.0f, x.partner(0));
         x.sell(0, 7);
         Checks.isReal(18.9f, x.partner(0));
@@ -799,7 +755,7 @@ public final class PromiseTests {
     }
 
     private static void fullness() {
-        TheatreSeasons x = withPerformances();
+        TheatreSeasons x = Fixtures.withPerformances();
         Checks.isReal(0.0, x.fullness(0));
         x.sell(0, 7);
         x.subscribe(6);
@@ -816,7 +772,7 @@ public final class PromiseTests {
     }
 
     private static void reason() {
-        TheatreSeasons x = withPerformances();
+        TheatreSeasons x = Fixtures.withPerformances();
         Checks.noElement(() -> x.reason(true));
         Checks.noArgument(() -> x.sell(0, 0));
         Checks.noElement(() -> x.reason(false));
@@ -832,12 +788,12 @@ public final class PromiseTests {
     }
 
     private static void account() {
-        TheatreSeasons x = withSeats();
+        TheatreSeasons x = Fixtures.withSeats();
         x.request(0, 5, 5);
         x.setStaff(7);
         x.setRoom(21);
         x.setSeats(1, 61);
-        type(x, "abc");
+        Fixtures.type(x, "abc");
         int taken0 = 9 * (9 + 1) + 7 * 6;
         int taken1 = 20 * 20 + 16 * 5;
         int[] due = {2, 4, 2, 1, 30, 11, 40 + 61 + 80 + 40 - 41, 7, 21, taken0 + taken1, 40, 61, 80, 3, 6};
@@ -865,54 +821,54 @@ public final class PromiseTests {
     }
 
     private static void read() {
-        TheatreSeasons x = withPerformances();
+        TheatreSeasons x = Fixtures.withPerformances();
         x.subscribe(4);
-        Checks.is(1, read(x, "s0x30"));
+        Checks.is(1, Fixtures.read(x, "s0x30"));
         Checks.is(10, x.performance(0, 5));
-        Checks.is(1, read(x, "r0x05"));
+        Checks.is(1, Fixtures.read(x, "r0x05"));
         Checks.is(25, x.performance(0, 3));
-        Checks.is(2, read(x, "w0x16!3;w00x1!9"));
+        Checks.is(2, Fixtures.read(x, "w0x16!3;w00x1!9"));
         Checks.is(1, x.waiting(0, 0, false));
         Checks.is(3, x.waiting(0, 1, true));
-        Checks.is(2, read(x, "h0:2;e0:2>1"));
+        Checks.is(2, Fixtures.read(x, "h0:2;e0:2>1"));
         Checks.is(2, x.subscription(0, 3));
-        Checks.is(1, read(x, "l0:1"));
+        Checks.is(1, Fixtures.read(x, "l0:1"));
         Checks.is(0, x.subscription(0, 3));
-        Checks.is(2, read(x, "m2@29;m00@1"));
+        Checks.is(2, Fixtures.read(x, "m2@29;m00@1"));
         Checks.is(29, x.performance(2, 2));
         Checks.is(1, x.performance(0, 2));
         Checks.is(0, x.account(13));
         Checks.is(6, x.account(14));
         x.undo();
         Checks.is(4, x.performance(2, 2));
-        Checks.is(12, read(x, "s1x1;s1x1;s1x1;s1x1;s1x1;s1x1;s1x1;s1x1;s1x1;s1x1;s1x1;s1x1"));
+        Checks.is(12, Fixtures.read(x, "s1x1;s1x1;s1x1;s1x1;s1x1;s1x1;s1x1;s1x1;s1x1;s1x1;s1x1;s1x1"));
         Checks.is(12, x.performance(1, 3));
         Checks.is(5, x.undo());
         Checks.is(0, x.performance(1, 3));
     }
 
     private static void readFails() {
-        TheatreSeasons x = withPerformances();
-        Checks.noState(() -> read(x, "s0x30;s3x1"));
+        TheatreSeasons x = Fixtures.withPerformances();
+        Checks.noState(() -> Fixtures.read(x, "s0x30;s3x1"));
         Checks.is(0, x.performance(0, 3));
         Checks.is(0, x.account(13));
         Checks.is(5, x.account(14));
         Checks.noElement(() -> x.reason(false));
-        Checks.noState(() -> read(x, "s0x0"));
-        Checks.noState(() -> read(x, "m0@30"));
-        Checks.noState(() -> read(x, "h0:0"));
+        Checks.noState(() -> Fixtures.read(x, "s0x0"));
+        Checks.noState(() -> Fixtures.read(x, "m0@30"));
+        Checks.noState(() -> Fixtures.read(x, "h0:0"));
         Checks.noElement(() -> x.reason(false));
-        Checks.noState(() -> read(x, "s0x30;s0x11;s1x1"));
+        Checks.noState(() -> Fixtures.read(x, "s0x30;s0x11;s1x1"));
         Checks.is(4, x.reason(false));
         Checks.is(10, x.reason(true));
         Checks.is(0, x.account(4));
-        Checks.noState(() -> read(x, "s0x1;s9x1"));
+        Checks.noState(() -> Fixtures.read(x, "s0x1;s9x1"));
         Checks.is(4, x.reason(false));
         Checks.noElement(x::errorPosition);
         x.setStaff(7);
         x.setStaff(8);
         x.setStaff(9);
-        Checks.noState(() -> read(x, "s0x1;m0@6"));
+        Checks.noState(() -> Fixtures.read(x, "s0x1;m0@6"));
         Checks.is(1, x.reason(false));
         Checks.is(1, x.reason(true));
         Checks.is(6, x.account(14));
@@ -926,23 +882,23 @@ public final class PromiseTests {
     }
 
     private static void errorPosition() {
-        TheatreSeasons x = withPerformances();
+        TheatreSeasons x = Fixtures.withPerformances();
         String[] texts = {"", "x", "S", "s", "s1", "s1x", "sx", "s123", "s1x234", "s1x2;", "s1x2;;", "s1x2 ",
             "r1!", "w1x2", "w1x2!", "w1x2!34", "w1x2!x", "h1x", "h1:", "l1:222", "e1:2", "e1:2>", "e1:2>345",
             "e1:2:", "m1@", "m1@2@", "m1x", ";", "s1x2;q", " s1x2", "m100@1"};
         int[] due = {0, 0, 0, 1, 2, 3, 1, 3, 5, 5, 5, 4, 2, 4, 5, 6, 5, 2, 3, 5, 4, 5, 7, 4, 3, 4, 2, 0, 5, 0, 3};
         for (int k = 0; k < texts.length; k++) {
             String text = texts[k];
-            Checks.noArgument(() -> read(x, text));
+            Checks.noArgument(() -> Fixtures.read(x, text));
             Checks.is(due[k], x.errorPosition());
             Checks.is(0, x.account(13));
         }
-        Checks.is(1, read(x, "s1x2"));
+        Checks.is(1, Fixtures.read(x, "s1x2"));
         Checks.is(3, x.errorPosition());
         x.undo();
         Checks.is(3, x.errorPosition());
         String full = "s1x1;s1x1;s1x1;s1x1;s1x1;s1x1;s1x1;s1x1;s1x1;s1x1;s1x1;s1x1;";
-        Checks.noArgument(() -> read(x, full));
+        Checks.noArgument(() -> Fixtures.read(x, full));
         Checks.is(60, x.errorPosition());
         Checks.is(0, x.performance(1, 3));
     }
@@ -962,9 +918,9 @@ public final class PromiseTests {
         }
         Checks.noElement(x::undo);
         Checks.is(8, x.account(7));
-        type(x, "s0");
+        Fixtures.type(x, "s0");
         x.setRoom(3);
-        type(x, "x1");
+        Fixtures.type(x, "x1");
         x.undo();
         Checks.is(4, x.account(13));
         Checks.is(20, x.account(8));
@@ -979,7 +935,7 @@ public final class PromiseTests {
             () -> x.addProduction(2, 2, 2, 2), () -> x.setRoom(22), () -> x.setStaff(8),
             () -> x.perform(0, 0, 0), () -> x.perform(0, 0, 2), () -> x.move(0, 0), () -> x.sell(0, 5),
             () -> x.refund(0, 2), () -> x.request(0, 1, 1), () -> x.subscribe(2), () -> x.hold(0, 0),
-            () -> x.exchange(0, 0, 1), () -> x.release(0, 1), () -> x.cancel(0), () -> read(x, "s0x1"),
+            () -> x.exchange(0, 0, 1), () -> x.release(0, 1), () -> x.cancel(0), () -> Fixtures.read(x, "s0x1"),
         };
         for (Runnable call : calls) {
             if (x.account(14) == 6) {
@@ -987,49 +943,23 @@ public final class PromiseTests {
                 x.restore();
                 Checks.is(0, x.account(14));
             }
-            String before = told(x);
+            String before = Fixtures.told(x);
             int remembered = x.account(14);
             call.run();
-            String after = told(x);
+            String after = Fixtures.told(x);
             Checks.is(remembered + 1, x.account(14));
             Checks.is(remembered, x.undo());
-            Checks.tell(before.equals(told(x)), "undo left " + told(x) + ", due is " + before);
+            Checks.tell(before.equals(Fixtures.told(x)), "undo left " + Fixtures.told(x) + ", due is " + before);
             call.run();
-            Checks.tell(after.equals(told(x)), "again there is " + told(x) + ", due is " + after);
+            Checks.tell(after.equals(Fixtures.told(x)), "again there is " + Fixtures.told(x) + ", due is " + after);
         }
-    }
-
-    private static String told(TheatreSeasons x) {
-        StringBuilder text = new StringBuilder();
-        for (int k = 0; k < 13; k++) {
-            text.append(x.account(k)).append(' ');
-        }
-        for (int k = 0; k < x.account(1); k++) {
-            for (int what = 0; what < 8; what++) {
-                text.append(x.performance(k, what)).append(' ');
-            }
-            for (int place = 0; place < x.performance(k, 6); place++) {
-                text.append(x.waiting(k, place, false)).append('!').append(x.waiting(k, place, true)).append(' ');
-            }
-        }
-        for (int k = 0; k < x.account(0); k++) {
-            for (int what = 0; what < 8; what++) {
-                text.append(x.production(k, what)).append(' ');
-            }
-        }
-        for (int k = 0; k < x.account(2); k++) {
-            for (int what = 0; what < 4; what++) {
-                text.append(x.subscription(k, what)).append(' ');
-            }
-        }
-        return text.append(x.load(1)).toString();
     }
 
     private static void save() {
         TheatreSeasons x = new TheatreSeasons();
         Checks.is(0, x.save());
         Checks.is(0, x.account(14));
-        TheatreSeasons y = withPerformances();
+        TheatreSeasons y = Fixtures.withPerformances();
         y.sell(0, 3);
         Checks.is(3, y.save());
         Checks.is(6, y.account(14));
@@ -1043,28 +973,28 @@ public final class PromiseTests {
     }
 
     private static void restore() {
-        TheatreSeasons x = withSeats();
+        TheatreSeasons x = Fixtures.withSeats();
         Checks.noState(x::restore);
         Checks.is(6, x.account(14));
         x.request(2, 9, 9);
         x.setStaff(9);
         x.save();
-        String before = told(x);
+        String before = Fixtures.told(x);
         x.cancel(2);
         x.addProduction(1, 1, 1, 1);
         x.subscribe(3);
         x.setSeats(0, 30);
-        type(x, "s0");
+        Fixtures.type(x, "s0");
         Checks.refused(x, 4, 27, () -> x.sell(0, 28));
         Checks.is(4, x.restore());
-        Checks.tell(before.equals(told(x)), "restored is " + told(x) + ", due is " + before);
+        Checks.tell(before.equals(Fixtures.told(x)), "restored is " + Fixtures.told(x) + ", due is " + before);
         Checks.is(0, x.account(14));
         Checks.noElement(x::undo);
         Checks.is(2, x.account(13));
         Checks.is(4, x.reason(false));
         x.cancel(0);
         Checks.is(4, x.restore());
-        Checks.tell(before.equals(told(x)), "restored again is " + told(x) + ", due is " + before);
+        Checks.tell(before.equals(Fixtures.told(x)), "restored again is " + Fixtures.told(x) + ", due is " + before);
         restoreOverOtherRows();
     }
 
@@ -1077,7 +1007,7 @@ public final class PromiseTests {
         x.subscribe(2);
         x.request(0, 50, 5);
         x.save();
-        String before = told(x);
+        String before = Fixtures.told(x);
         for (int k = 0; k < 4; k++) {
             x.undo();
         }
@@ -1086,6 +1016,6 @@ public final class PromiseTests {
         x.subscribe(3);
         x.request(0, 51, 6);
         x.restore();
-        Checks.tell(before.equals(told(x)), "restored is " + told(x) + ", due is " + before);
+        Checks.tell(before.equals(Fixtures.told(x)), "restored is " + Fixtures.told(x) + ", due is " + before);
     }
 }
