@@ -39,6 +39,7 @@ public final class LimitTests {
         Checks.group("at most 24 performances", LimitTests::mostPerformances);
         Checks.group("at most 20 requests", LimitTests::mostRequests);
         Checks.group("20 requests over several performances", LimitTests::mostRequestsOfAll);
+        Checks.group("the 20th request goes ahead of all others", LimitTests::lastRequestFirst);
         Checks.group("at most 10 subscriptions", LimitTests::mostSubscriptions);
         Checks.group("at most 2 exchanges", LimitTests::mostExchanges);
         Checks.group("at most 60 characters", LimitTests::mostCharacters);
@@ -364,6 +365,28 @@ public final class LimitTests {
             Checks.is(k - 10, x.request(1, 40, 0));
         }
         Checks.refused(x, 8, 20, () -> x.request(1, 40, 0));
+    }
+
+    private static void lastRequestFirst() {
+        TheatreSeasons x = Fixtures.withPerformances();
+        for (int k = 0; k < 19; k++) {
+            Checks.is(k % 2, x.request(0, 50 + k, k / 2));
+        }
+        Checks.is(1, x.request(0, 69, 9));
+        Checks.is(20, x.performance(0, 6));
+        for (int place = 0; place < 20; place++) {
+            int k = 18 - place / 2 * 2 + place % 2;
+            Checks.is(50 + k, x.waiting(0, place, false));
+            Checks.is(k / 2, x.waiting(0, place, true));
+        }
+        TheatreSeasons y = Fixtures.withPerformances();
+        for (int k = 0; k < 19; k++) {
+            Checks.is(k, y.request(0, 50 + k, 0));
+        }
+        Checks.is(0, y.request(0, 99, 1));
+        Checks.is(99, y.waiting(0, 0, false));
+        Checks.is(68, y.waiting(0, 19, false));
+        Checks.is(0, y.waiting(0, 19, true));
     }
 
     private static void mostSubscriptions() {

@@ -15,6 +15,7 @@ public final class PlacingTests {
         Checks.group("reason 2 tells how many more on the first such date", PlacingTests::missingStaff);
         Checks.group("a moved performance leaves its crew's date", PlacingTests::crewsOfMoved);
         Checks.group("the run, both dates included", PlacingTests::runs);
+        Checks.group("the run of a single date", PlacingTests::shortestRuns);
         Checks.group("the run from the first to the last date there is", PlacingTests::longestRun);
         Checks.group("a set is on the stage or in the storage", PlacingTests::storedBetween);
         Checks.group("the load is at most the room, setRoom", PlacingTests::roomOfSetRoom);
@@ -207,6 +208,20 @@ public final class PlacingTests {
         x.cancel(0);
         checkLoads(x, 4, 0, 0, 0, 0, 0, 0);
         Checks.is(8, x.production(0, 5));
+    }
+
+    private static void shortestRuns() {
+        for (int date : new int[] {0, 1, 28, 29}) {
+            TheatreSeasons x = withSets(9);
+            x.setRoom(0);
+            x.perform(0, 0, date);
+            Checks.is(date, x.production(0, 5));
+            Checks.is(date, x.production(0, 6));
+            Checks.is(0, x.peak());
+            x.cancel(0);
+            Checks.is(-1, x.production(0, 5));
+            Checks.is(-1, x.production(0, 6));
+        }
     }
 
     private static void longestRun() {
