@@ -566,6 +566,14 @@ public final class PlacingTests {
         x.setRoom(1);
         Checks.is(24, x.bestMove(1));
         Checks.is(24, x.bestMove(23));
+        TheatreSeasons late = withSets(1);
+        late.setRoom(0);
+        for (int date = 6; date < 30; date++) {
+            late.perform(0, 0, date);
+        }
+        Checks.noElement(() -> late.bestMove(0));
+        Checks.noElement(() -> late.bestMove(22));
+        Checks.is(5, late.bestMove(23));
         TheatreSeasons y = Fixtures.full();
         y.setStaff(3);
         for (int n = 0; n < 24; n++) {

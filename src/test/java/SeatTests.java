@@ -33,6 +33,7 @@ public final class SeatTests {
         Checks.group("served if it has at most as many seats as are free", SeatTests::servedExactly);
         Checks.group("a first request keeps those behind it waiting", SeatTests::firstKeepsBehind);
         Checks.group("as long as there is a first one", SeatTests::servedOneByOne);
+        Checks.group("all 20 requests served at once", SeatTests::allServed);
         Checks.group("a refund tells how many are sold behind the serving", SeatTests::refundTellsBehind);
         Checks.group("release serves the requests of this performance", SeatTests::releaseServes);
         Checks.group("exchange serves those of the performance that is left", SeatTests::exchangeServes);
@@ -321,6 +322,24 @@ public final class SeatTests {
         Checks.is(40, x.refund(0, 2));
         Checks.is(0, x.performance(0, 5));
         Checks.is(0, x.performance(0, 6));
+    }
+
+    private static void allServed() {
+        TheatreSeasons x = Fixtures.withPerformances();
+        x.sell(0, 40);
+        for (int k = 0; k < 20; k++) {
+            x.request(0, 2, k % 10);
+        }
+        Checks.is(40, x.refund(0, 40));
+        Checks.is(0, x.account(3));
+        for (int k = 0; k < 20; k++) {
+            x.request(0, k < 19 ? 1 : 2, 5);
+        }
+        Checks.is(40, x.setSeats(0, 60));
+        Checks.is(1, x.account(3));
+        Checks.is(59, x.performance(0, 3));
+        Checks.is(60, x.setSeats(0, 61));
+        Checks.is(0, x.account(3));
     }
 
     private static void refundTellsBehind() {
